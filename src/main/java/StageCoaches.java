@@ -208,7 +208,8 @@ public final class StageCoaches {
 
     private void arrive(Coach one) {
         one.reachNextInn();
-        one.late = clock - one.toldAt(one.inn, highway);
+        one.toldHere = one.toldAt(one.inn, highway);
+        one.late = clock - one.toldHere;
         if (one.inn == one.to) {
             stables.stable(one.team, one.inn);
             one.team = NONE;
@@ -241,7 +242,7 @@ public final class StageCoaches {
     /** What each NAME is for the guard of a coach now; the order is that of the NAMES in Scanner.WORDS. */
     private void look(Coach one, int fresh) {
         int stage = one.nextStage();
-        seen[0] = clock - one.toldAt(one.inn, highway);
+        seen[0] = clock - one.toldHere;
         seen[1] = one.load;
         seen[2] = highway.tell(stage, Highway.MUD);
         seen[3] = highway.tell(stage, Highway.MILES);
@@ -545,9 +546,11 @@ public final class StageCoaches {
 
         int strongest(int atInn) {
             int best = NONE;
+            int most = NONE;
             for (int team = 0; team < teams; team++) {
-                if (inn[team] == atInn && strength[team] > strengthOf(best)) {
+                if (inn[team] == atInn && strength[team] > most) {
                     best = team;
+                    most = strength[team];
                 }
             }
             return best;
@@ -614,6 +617,7 @@ public final class StageCoaches {
         int leaves;
         int arrives;
         int waited;
+        int toldHere;
         int late;
         final int[] parts;
         // What the parts get at the next inn: until then LATE is told without it.
@@ -628,6 +632,7 @@ public final class StageCoaches {
             state = NOT_LEFT;
             inn = from;
             team = NONE;
+            toldHere = start;
             parts = new int[PARTS];
             coming = new int[PARTS];
         }
