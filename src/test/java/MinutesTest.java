@@ -130,6 +130,17 @@ public final class MinutesTest {
         z.coach(0, 0, 0, 1, 0);
         z.run(1);
         due("one too weak", z.where(0, 4), 8);
+        StageCoaches w = new StageCoaches();
+        w.team(0, 1);
+        w.coach(0, 0, 0, 1, 0);
+        w.run(1);
+        due("ten too weak", w.where(0, 4), 8);
+        StageCoaches v = new StageCoaches();
+        v.team(0, 0);
+        v.coach(0, 50, 0, 1, 0);
+        v.run(1);
+        // COST 62, 1 strong: 7; LOADS 5.
+        due("a full load", v.where(0, 4), 7 + 5 + 7);
     }
 
     private static void kinds() {

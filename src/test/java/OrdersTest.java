@@ -110,6 +110,11 @@ public final class OrdersTest {
         bad("when latelate9 do go;", 3, 5);
         bad("when latelatel do go;", 1, 5);
         bad("abcdefghi", 1, 0);
+        bad("when zz do go;", 3, 5);
+        bad("when `{ do go;", 1, 5);
+        bad("when { do go;", 1, 5);
+        bad("when / do go;", 1, 5);
+        bad("when : do go;", 1, 5);
         bad("abcdefgh", 2, 0);
         bad("when 1 do go;1a", 1, 13);
         bad("when late > * do go;", 1, 12);
@@ -259,7 +264,8 @@ public final class OrdersTest {
             "1", "2", "1-2", "not 0", "not not 5", "1<2", "2>1", "3=3", "1 and 2", "0 or 3", "1+2=3", "3-2-1=0",
             "3-(2-1)=2", "not 1=2", "not 0 and 1", "1 or 0 and 0", "(5 and 7)=1", "(0 or 9)=1", "(not 7)=0",
             "(not 0)+1=2", "(2)+1=3", "((1<2)+(2<3))=2", "0-1<0", "1=1 and 2=2", "not (1 and 0)", "(3)",
-            "1<2 or 0", "(1=1)=(2=2)", "(4 or 0)+(5 and 6)=2", "not 5+5=11", "000005=5", "0-5<0-4"};
+            "1<2 or 0", "(1=1)=(2=2)", "(4 or 0)+(5 and 6)=2", "not 5+5=11", "000005=5", "(2>1)=1",
+            "(3=3)=1", "(1<2)=1", "(0<1)-1=0", "10-0=10", "0-5<0-4"};
         String[] no = {
             "0", "1-1", "not 1", "not 0-1", "2<1", "1<1", "1>2", "1>1", "3=4", "1 and 0", "0 and 1", "0 or 0",
             "not 1=1", "not not 0", "(1 or 0) and 0", "0 and 1 or 0", "(1<2)-(2<3)", "3-2-1", "(5 and 7)=7"};

@@ -62,6 +62,9 @@ public final class RoadTest {
         due("inns", x.about(1), 8);
         due("first with 8 inns", x.first(7, 0, 0), true);
         due("road(6, 0)", x.road(6, 0), 1);
+        due("mud(6, 8)", x.mud(6, 8), true);
+        due("road(6, 2)", x.road(6, 2), 8);
+        due("mud(7, 1)", x.mud(7, 1), false);
         due("road(7, 0)", x.road(7, 0), NONE);
         due("road(7, 4)", x.road(7, 4), 0);
         StageCoaches y = new StageCoaches();
@@ -95,6 +98,8 @@ public final class RoadTest {
         due("mud(-1, 0)", x.mud(-1, 0), false);
         due("mud(1, 0)", x.mud(1, 0), false);
         due("MUD", x.road(0, 2), 9);
+        due("mud(0, 0)", x.mud(0, 0), true);
+        due("MUD", x.road(0, 2), 0);
         due("oats(0, 0)", x.oats(0, 0), true);
         due("oats(1, 100000)", x.oats(1, 100000), true);
         due("oats(1, 0)", x.oats(1, 0), true);

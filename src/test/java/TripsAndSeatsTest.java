@@ -40,6 +40,8 @@ public final class TripsAndSeatsTest {
         due("TRIPS", x.about(5), 0);
         due("trip again", x.trip(0, true, 0), 1);
         due("fewest of one", x.fewest(10000), 1);
+        due("a trip of before is none", x.behind(0, 1, 0), false);
+        due("a trip of before is none", x.behind(1, 23, 0), false);
         due("fewest(-1)", x.fewest(-1), NONE);
         due("fewest(10001)", x.fewest(10001), NONE);
         x.clear();
