@@ -81,6 +81,7 @@ public final class Promises21To26EdgesTest extends Edges {
         due("FREE on the last", x.free(7, 0, 0), 0);
         due("the last BOOKING is there", x.untell(99), true);
         refuses(many, "a 101st BOOKING", NONE, y -> y.book(0, 0, 1));
+        refuses(many, "untell of a 101st BOOKING", false, y -> y.untell(100));
     }
 
     @Says("or there are 100.")

@@ -90,6 +90,19 @@ public final class Promises8To11EdgesTest extends Edges {
     }
 
     @Says("The TAPE has its first n bytes: n")
+    void promise9EndCutsWithinATokenToo() {
+        StageCoaches x = new StageCoaches();
+        Checks.type(x, "when 1a do go;");
+        x.end(6);
+        due("a letter behind the digit is gone", x.orders(), NONE);
+        faultIs(x, 2, 6);
+        Checks.type(x, GO + "when 1 do wait;");
+        x.end(17);
+        due("a line that breaks off", x.orders(), NONE);
+        faultIs(x, 2, 17);
+    }
+
+    @Says("The TAPE has its first n bytes: n")
     void promise9EndLetsTheNextBytesComeBehind() {
         StageCoaches x = new StageCoaches();
         Checks.type(x, GO + "$$$$$$$");

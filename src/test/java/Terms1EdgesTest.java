@@ -53,6 +53,26 @@ public final class Terms1EdgesTest extends Edges {
         row("free on the first STAGE alone", new int[] {12, NONE, NONE, NONE, NONE, NONE, NONE, NONE}, k -> x.free(1, k, 0));
     }
 
+    @Says("STAGE k lies between INN k and k + 1")
+    void terms1StageIsTheSameDownAndUp() {
+        Story road = new Story(x -> x.first(1, 1, 0), x -> x.stage(2, 2, 0), x -> x.stage(3, 3, 0), x -> x.mud(0, 4),
+            x -> x.mud(1, 6), x -> x.mud(2, 8));
+        int[] minutes = {7 + 2 + 1, 14 + 4 + 3, 21 + 6 + 6};
+        int[] costs = {12 + 10 + 20, 24 + 20 + 30, 36 + 30 + 40};
+        for (int stage = 0; stage < 3; stage++) {
+            int k = stage;
+            StageCoaches down = road.and(x -> x.team(k, 1000), x -> x.coach(0, 0, k, k + 1, 0), x -> x.run(1)).tell();
+            due("down over " + k, down.where(0, 4), minutes[k]);
+            due("STRENGTH", down.horses(0, 0), 1000 - costs[k]);
+            StageCoaches up = road.and(x -> x.team(k + 1, 1000), x -> x.coach(0, 0, k + 1, k, 0), x -> x.run(1)).tell();
+            due("up over " + k, up.where(0, 4), minutes[k]);
+            due("STRENGTH", up.horses(0, 0), 1000 - costs[k]);
+            up.run(minutes[k]);
+            due("at its last INN", up.where(0, 1), k);
+            due("MUDS", up.part(0, 0), new int[] {1, 3, 6}[k]);
+        }
+    }
+
     @Says("MILES (1 .. 20), CLIMB (0 .. 9), MUD (0 .. 9), and a MASTER (0 .. 3) whose it is.")
     void terms1StageAtItsLeastAndMost() {
         StageCoaches x = new StageCoaches();

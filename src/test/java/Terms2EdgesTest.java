@@ -41,9 +41,10 @@ public final class Terms2EdgesTest extends Edges {
             x -> x.team(1, 9), x -> x.coach(0, 25, 0, 2, 0), x -> Checks.order(x, "when 1 do wait;"), x -> x.run(10));
     }
 
-    /** What the COACH does by a text whose first line has that e: 1 it goes, 2 it is still HELD, NONE a FAULT. */
-    private static int state(Story held, String e) {
+    /** What the HELD COACH does by a text whose first line has that e: 1 it goes, 2 it stays HELD, NONE a FAULT. */
+    private int state(Story held, String e) {
         StageCoaches x = held.tell();
+        due("HELD before " + e, x.where(0, 0), 2);
         if (Checks.order(x, "when " + e + " do go; when 1 do wait;") == NONE) {
             return NONE;
         }
@@ -294,6 +295,8 @@ public final class Terms2EdgesTest extends Edges {
         badE("(".repeat(8) + " 1" + ")".repeat(8), 2, 9);
         badE("(".repeat(9) + "1" + ")".repeat(9), 2, 8);
         badE("(".repeat(8) + "not 1" + ")".repeat(8), 2, 8);
+        badE("(".repeat(8) + ")".repeat(8), 2, 8);
+        badE("(".repeat(7) + ")".repeat(7), 2, 7);
         // Closed ones are none around what comes behind.
         goodE("(".repeat(7) + "1" + ")".repeat(7) + "+" + "(".repeat(7) + "1" + ")".repeat(7));
         goodE("(".repeat(6) + "(1)+(2)=(3) and (4) or (5)" + ")".repeat(6));
@@ -305,6 +308,8 @@ public final class Terms2EdgesTest extends Edges {
         goodE("not ".repeat(7) + "1");
         badE("not ".repeat(8) + "1", 2, 32);
         badE("not ".repeat(9) + "1", 2, 32);
+        bad("when " + "not ".repeat(8) + "do go;", 2, 37);
+        bad("when " + "not ".repeat(7) + "do go;", 2, 33);
         goodE("not ".repeat(7) + "1=1 and " + "not ".repeat(7) + "1 or " + "not ".repeat(7) + "1");
         badE("not ".repeat(7) + "1 or " + "not ".repeat(8) + "1", 2, 65);
         // What stands behind a not up to its end is within it, and what an and or an or joins is not.
@@ -478,6 +483,21 @@ public final class Terms2EdgesTest extends Edges {
         bad("when \n\n\n", 2, 8);
         bad("when (1", 2, 7);
         bad("when 1 do go" + " ".repeat(788), 2, 800);
+    }
+
+    @Says("the end: the text's length")
+    void terms2TextEndsBeforeWhatWasCut() {
+        String[] cut = {"1|a", "1|2", "123456|7", "late|x", "abcdefgh|i", "1|$", "late| do go;"};
+        int[] faults = {2, 2, 2, 2, 3, 2, 2};
+        int[] places = {6, 6, 11, 9, 5, 6, 9};
+        for (int i = 0; i < cut.length; i++) {
+            StageCoaches x = new StageCoaches();
+            Checks.type(x, "when " + cut[i].replace("|", ""));
+            due("end", x.end(5 + cut[i].indexOf('|')), 5 + cut[i].indexOf('|'));
+            due(cut[i], x.orders(), NONE);
+            due("fault(0) of " + cut[i], x.fault(0), faults[i]);
+            due("fault(1) of " + cut[i], x.fault(1), places[i]);
+        }
     }
 
     @Says("at one place the least: 1 no TOKEN")

@@ -107,6 +107,29 @@ public final class Terms3EdgesTest extends Edges {
         due("TEAM", x.where(0, 2), 0);
     }
 
+    @Says("takes the strongest TEAM at its INN (the least number of like ones)")
+    void terms3TeamWithNothingLeftIsATeam() {
+        // The TEAM comes to INN 1 with 0 at minute 9, and goes on in the same minute, before it can rest.
+        StageCoaches x = new Story(y -> y.team(0, 0), y -> y.coach(0, 0, 0, 1, 0), y -> y.coach(0, 0, 1, 0, 9), y -> y.run(10)).tell();
+        due("DONE", x.where(0, 0), 4);
+        whereIs("with the TEAM of 0", x, 1, 1, 1, 0, 0, 9 + 7 + 2, 0);
+    }
+
+    @Says("change: with a TEAM at the INN it takes the strongest (the least number of like ones)")
+    void terms3ChangeToATeamWithNothingLeft() {
+        // The first COACH leaves its TEAM with 0 at INN 1 at minute 9; the second one comes then too.
+        Story story = new Story(y -> y.stage(1, 0, 0), y -> y.team(0, 0), y -> y.team(0, 0), y -> y.team(1, 1),
+            y -> y.coach(0, 0, 0, 2, 0), y -> y.coach(0, 0, 0, 2, 0));
+        StageCoaches x = story.and(y -> Checks.order(y, "when 1 do change;"), y -> y.run(10)).tell();
+        whereIs("the first", x, 0, 3, 1, 2, 2, 11, 0);
+        whereIs("the second", x, 1, 3, 1, 0, 2, 11, 0);
+        StageCoaches like = story.and(y -> Checks.order(y, "when fresh>0 do change;"), y -> y.run(10)).tell();
+        due("TEAMS alike at 0: the second goes", like.where(1, 0), 1);
+        StageCoaches fresh = story.and(y -> Checks.order(y, "when fresh=0 do wait; when 1 do change;"), y -> y.run(10)).tell();
+        due("fresh is 0 to the second", fresh.where(1, 0), 2);
+        due("and was not to the first", fresh.where(0, 0), 3);
+    }
+
     @Says("without one it has waited a minute.")
     void terms3WithoutATeamItWaits() {
         StageCoaches x = new Story(y -> y.team(1, 500), y -> y.coach(0, 0, 0, 1, 0)).tell();
@@ -172,6 +195,8 @@ public final class Terms3EdgesTest extends Edges {
             due(orders[i], x.where(0, 0), states[i]);
         }
         String tenth = "when 0 do go;".repeat(9) + "when 1 do wait;";
+        String none = "when 0 do wait;".repeat(10);
+        due("none of ten lines", road(3, none).and(y -> y.coach(0, 0, 0, 2, 0), y -> y.run(8)).tell().where(0, 0), 1);
         due("the tenth line", road(3, tenth).and(y -> y.coach(0, 0, 0, 2, 0), y -> y.run(8)).tell().where(0, 0), 2);
     }
 
