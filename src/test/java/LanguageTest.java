@@ -32,6 +32,7 @@ public final class LanguageTest {
         classesInside(faults);
         barredWords(faults);
         methodLengths(faults);
+        madeInConstructors(faults);
         for (String fault : faults) {
             System.out.println(fault);
         }
@@ -132,6 +133,23 @@ public final class LanguageTest {
                     }
                     from = -1;
                 }
+            }
+        }
+    }
+
+    /** What a run makes is counted: only coach, which can do so eight times, makes anything but a constructor. */
+    private static void madeInConstructors(List<String> faults) throws IOException {
+        Pattern head = Pattern.compile(" {4,8}((?:\\w+ )*)(\\w+)\\([^;]*\\) \\{");
+        boolean free = false;
+        for (String line : program().split("\n")) {
+            Matcher matcher = head.matcher(line);
+            if (matcher.matches() && !line.contains(" class ")) {
+                String before = matcher.group(1).trim();
+                boolean isConstructor = before.isEmpty() || before.equals("public");
+                free = isConstructor || matcher.group(2).equals("coach");
+            }
+            if (line.matches(".*\\bnew\\b.*") && !free) {
+                faults.add("made outside of a constructor: " + line.trim());
             }
         }
     }

@@ -19,7 +19,9 @@ public final class SentencesTest {
     public static void main(String[] args) throws IOException {
         String document = Edges.document();
         List<String> faults = new ArrayList<>();
-        if (!document.isEmpty()) {
+        if (document.isEmpty()) {
+            System.out.println("NOT LOOKED AT: there is no ../shared/DOC.md to be read");
+        } else {
             int words = look(document, faults);
             System.out.println(words + " words of boundary cases, " + faults.size() + " without a test");
         }
